@@ -552,7 +552,7 @@ public final class CashRecycler {
     }
 
     private void sendToReject(int s) {
-        // The belt never runs back, so a note that has passed the box goes in by hand.
+        // The belt never runs back, so a note that has passed the box goes in at once.
         if (s > REJECT_SEGMENT) {
             books.add(PLACE_REJECT, track.kindAt(s), 1);
             track.clear(s);
