@@ -55,11 +55,10 @@ public final class BeltTest {
     private static void notesStandBehindAStuckOne() {
         CashRecycler x = Machines.counting(1, 2, 3, 4);
         x.step(4);
-        Check.due(9, "picture " + Machines.picture(x), true, "0021......".equals(Machines.picture(x)));
+        Machines.shows(9, x, "0021......");
         x.stick(2);
         x.step(1);
-        Check.due(9, "those before it go on, those behind it stay: " + Machines.picture(x), true,
-                "002.1.....".equals(Machines.picture(x)));
+        Machines.shows(9, x, "002.1.....");
         Check.due(9, "a note at its goal", 1, x.belt(4, 1));
         Check.due(9, "state()", Machines.JAMMED, x.step(1));
         Check.due(9, "the first is in the escrow", 1, x.notes(0, 1));

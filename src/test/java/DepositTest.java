@@ -147,13 +147,7 @@ public final class DepositTest {
         CashRecycler x = Machines.counting(3, 6, 1);
         String[] due = {"0.........", "00........", "003.......", ".003......", "..103.....",
             "...10.....", "....10....", "......0...", ".......0..", "........0.", ".........0", ".........."};
-        for (int i = 0; i < due.length; i++) {
-            int state = x.step(1);
-            Check.due(9, "step " + (i + 1) + " shows " + Machines.picture(x) + ", due " + due[i],
-                    true, due[i].equals(Machines.picture(x)));
-            Check.due(9, "state after step " + (i + 1),
-                    i < due.length - 1 ? Machines.COUNTING : Machines.ESCROWED, state);
-        }
+        Machines.stepThrough(9, x, due, Machines.COUNTING, Machines.ESCROWED);
         Check.due(4, "escrow of kind 3", 1, x.notes(0, 3));
         Check.due(4, "escrow of kind 1", 1, x.notes(0, 1));
         Check.due(4, "tray without kind", 1, x.notes(5, 0));
@@ -229,13 +223,7 @@ public final class DepositTest {
         CashRecycler x = Machines.escrowed(1, 3, 5);
         x.confirm();
         String[] due = {"....5.....", "....35....", "....135...", ".....135..", "........5.", ".........."};
-        for (int i = 0; i < due.length; i++) {
-            int state = x.step(1);
-            Check.due(5, "step " + (i + 1) + " shows " + Machines.picture(x) + ", due " + due[i],
-                    true, due[i].equals(Machines.picture(x)));
-            Check.due(5, "state after step " + (i + 1),
-                    i < due.length - 1 ? Machines.STORING : Machines.IDLE, state);
-        }
+        Machines.stepThrough(5, x, due, Machines.STORING, Machines.IDLE);
         Check.due(5, "cassette 0", 1, x.cassette(0, 0));
         Check.due(5, "cassette 2", 1, x.cassette(2, 0));
         Check.due(5, "overflow", 1, x.notes(2, 5));

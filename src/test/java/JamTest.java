@@ -184,7 +184,7 @@ public final class JamTest {
         x.step(4);
         x.stick(9);
         x.step(2);
-        Check.due(15, "picture " + Machines.picture(x), true, "......3444".equals(Machines.picture(x)));
+        Machines.shows(15, x, "......3444");
         x.open();
         x.free(9);
         x.stick(7);
@@ -193,7 +193,7 @@ public final class JamTest {
         x.open();
         x.free(7);
         Check.due(15, "close()", Machines.RECOVERING, x.close());
-        Check.due(15, "picture " + Machines.picture(x), true, "......34..".equals(Machines.picture(x)));
+        Machines.shows(15, x, "......34..");
         Check.due(15, "reject at once", 2, x.notes(4, 4));
         Check.due(15, "goal in segment 6", 6, x.belt(6, 1));
         Check.due(15, "goal in segment 7", 6, x.belt(7, 1));

@@ -113,4 +113,18 @@ final class Machines {
         }
         return text.toString();
     }
+
+    static void shows(int promise, CashRecycler x, String due) {
+        String seen = picture(x);
+        Check.due(promise, "the belt shows " + seen + " where " + due + " is due", true, seen.equals(due));
+    }
+
+    /** A picture for each step; the state stays until the last of them. */
+    static void stepThrough(int promise, CashRecycler x, String[] due, int state, int lastState) {
+        for (int i = 0; i < due.length; i++) {
+            int then = i < due.length - 1 ? state : lastState;
+            Check.due(promise, "state after step " + (i + 1), then, x.step(1));
+            shows(promise, x, due[i]);
+        }
+    }
 }

@@ -148,13 +148,7 @@ public final class PayoutTest {
         // 10 from 3 (segment 6), 4 and 4 from 2 (segment 6), 2 from 1 and 1 from 0 (segment 5).
         String[] due = {"......4...", "......34..", "......334.", ".....2.334", ".....12.33", "......12.3",
             ".......12.", "........12", ".........1", ".........."};
-        for (int i = 0; i < due.length; i++) {
-            int state = x.step(1);
-            Check.due(7, "step " + (i + 1) + " shows " + Machines.picture(x) + ", due " + due[i],
-                    true, due[i].equals(Machines.picture(x)));
-            Check.due(7, "state after step " + (i + 1),
-                    i < due.length - 1 ? Machines.PAYING : Machines.IDLE, state);
-        }
+        Machines.stepThrough(7, x, due, Machines.PAYING, Machines.IDLE);
         Check.due(7, "taken()", 5, x.taken());
         Check.due(7, "balance()", 0, x.balance());
     }
@@ -177,10 +171,6 @@ public final class PayoutTest {
         Check.due(7, "payout(31)", 3, x.payout(31));
         // The note of kind 4 waits as that of kind 5 passes segment 6; kind 1 does not overtake it.
         String[] due = {".....5....", "......5...", "......45..", ".....1.45."};
-        for (int i = 0; i < due.length; i++) {
-            x.step(1);
-            Check.due(7, "step " + (i + 1) + " shows " + Machines.picture(x) + ", due " + due[i],
-                    true, due[i].equals(Machines.picture(x)));
-        }
+        Machines.stepThrough(7, x, due, Machines.PAYING, Machines.PAYING);
     }
 }

@@ -127,9 +127,9 @@ public final class PowerTest {
         CashRecycler x = Machines.filled(5);
         x.payout(5);
         x.step(5);
-        Check.due(16, "picture " + Machines.picture(x), true, ".....11111".equals(Machines.picture(x)));
+        Machines.shows(16, x, ".....11111");
         blink(x, "PAYING", Machines.RECOVERING);
-        Check.due(16, "picture " + Machines.picture(x), true, ".....111..".equals(Machines.picture(x)));
+        Machines.shows(16, x, ".....111..");
         Check.due(16, "reject at once", 2, x.notes(4, 1));
         x.step(3);
         Check.due(16, "state()", Machines.IDLE, x.state());

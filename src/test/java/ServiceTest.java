@@ -9,12 +9,6 @@ public final class ServiceTest {
         Check.finish();
     }
 
-    private static CashRecycler served() {
-        CashRecycler x = new CashRecycler();
-        x.service();
-        return x;
-    }
-
     private static void service() {
         CashRecycler x = new CashRecycler();
         Check.due(17, "service()", true, x.service());
