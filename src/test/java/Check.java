@@ -1,3 +1,5 @@
+import java.util.function.IntConsumer;
+
 /** Compares answers with those that are due, tells each wrong one with its promise, and counts. */
 final class Check {
     private static int asked = 0;
@@ -15,6 +17,20 @@ final class Check {
 
     static void due(int promise, String what, boolean want, boolean got) {
         due(promise, what, want ? 1 : 0, got ? 1 : 0);
+    }
+
+    static void same(int promise, String what, String want, String got) {
+        asked++;
+        if (!want.equals(got)) {
+            tell(promise, what + " shows " + got + ", due is " + want);
+        }
+    }
+
+    /** The call refuses each of these as an argument. */
+    static void refusesEach(int promise, String name, IntConsumer call, int... arguments) {
+        for (int argument : arguments) {
+            badArgument(promise, name + "(.. " + argument + " ..)", () -> call.accept(argument));
+        }
     }
 
     static void fails(int promise, String what, Class<? extends RuntimeException> want, Runnable call) {

@@ -96,6 +96,33 @@ final class Machines {
         return x;
     }
 
+    /** So many notes into the slot, in as many goes as insert needs. */
+    static void insertAll(CashRecycler x, int n) {
+        for (int left = n; left > 0; left -= 20) {
+            x.insert(Math.min(left, 20));
+        }
+    }
+
+    static void verdicts(CashRecycler x, int n, int kind) {
+        for (int i = 0; i < n; i++) {
+            x.verdict(kind);
+        }
+    }
+
+    /** COUNTING, so many notes in the slot, all of them to be of one kind. */
+    static CashRecycler countingMany(int n, int kind) {
+        CashRecycler x = new CashRecycler();
+        insertAll(x, n);
+        verdicts(x, n, kind);
+        x.deposit();
+        return x;
+    }
+
+    static void blink(CashRecycler x) {
+        x.power();
+        x.power();
+    }
+
     static int all(CashRecycler x, int place) {
         int sum = 0;
         for (int kind = 0; kind <= 5; kind++) {
@@ -114,9 +141,29 @@ final class Machines {
         return text.toString();
     }
 
+    /** All that can be asked without a change: 106 calls. */
+    static String snapshot(CashRecycler x) {
+        StringBuilder text = new StringBuilder();
+        text.append("state ").append(x.state()).append(", balance ").append(x.balance()).append(", notes");
+        for (int place = 0; place <= 10; place++) {
+            text.append(' ');
+            for (int kind = 0; kind <= 5; kind++) {
+                text.append(x.notes(place, kind)).append(kind < 5 ? "," : "");
+            }
+        }
+        text.append(", cassettes");
+        for (int c = 0; c < 4; c++) {
+            text.append(' ').append(x.cassette(c, 0)).append(" of ").append(x.cassette(c, 1));
+        }
+        text.append(", belt");
+        for (int s = 0; s < 10; s++) {
+            text.append(' ').append(x.belt(s, 0)).append(',').append(x.belt(s, 1)).append(',').append(x.belt(s, 2));
+        }
+        return text.toString();
+    }
+
     static void shows(int promise, CashRecycler x, String due) {
-        String seen = picture(x);
-        Check.due(promise, "the belt shows " + seen + " where " + due + " is due", true, seen.equals(due));
+        Check.same(promise, "the belt", due, picture(x));
     }
 
     /** A picture for each step; the state stays until the last of them. */
