@@ -32,6 +32,7 @@ public final class RefusalsTest {
     }
 
     public static void main(String[] args) {
+        situationsAreAsNamed();
         callsWithoutFaultByTheState();
         beginnings();
         callsOfAnOpenMachine();
@@ -133,12 +134,26 @@ public final class RefusalsTest {
         }
     }
 
+    private static void dueThrown(int promise, String what, char want, char got) {
+        Check.same(promise, what + " (. nothing, S state, A argument, U unsupported, N no such)",
+                String.valueOf(want), String.valueOf(got));
+    }
+
     /** Lines of S IllegalStateException and . nothing, one sign for each situation. */
     private static void due(int promise, String name, String lit, String dark, Consumer<CashRecycler> body) {
         for (int i = 0; i < SITUATIONS.length; i++) {
             String what = name + ", " + SITUATIONS[i];
-            Check.due(promise, what, lit.charAt(2 * i), thrown(situation(i), body));
-            Check.due(promise, what + ", without power", dark.charAt(2 * i), thrown(situationInTheDark(i), body));
+            dueThrown(promise, what, lit.charAt(2 * i), thrown(situation(i), body));
+            dueThrown(promise, what + ", without power", dark.charAt(2 * i), thrown(situationInTheDark(i), body));
+        }
+    }
+
+    private static void situationsAreAsNamed() {
+        int[] states = {Machines.IDLE, Machines.IDLE, Machines.IDLE, Machines.COUNTING, Machines.ESCROWED,
+            Machines.STORING, Machines.RETURNING, Machines.PAYING, Machines.JAMMED, Machines.JAMMED,
+            Machines.RECOVERING, Machines.SERVICE};
+        for (int i = 0; i < SITUATIONS.length; i++) {
+            Check.due(21, "state(), " + SITUATIONS[i], states[i], situation(i).state());
         }
     }
 
@@ -195,8 +210,8 @@ public final class RefusalsTest {
                 CashRecycler x = situation(i);
                 char due = x.belt(s, 0) < 0 ? 'N' : '.';
                 String what = "stick(" + s + "), " + SITUATIONS[i];
-                Check.due(11, what, due, thrown(x, y -> y.stick(segment)));
-                Check.due(11, what + ", without power", due,
+                dueThrown(11, what, due, thrown(x, y -> y.stick(segment)));
+                dueThrown(11, what + ", without power", due,
                         thrown(situationInTheDark(i), y -> y.stick(segment)));
             }
         }
@@ -211,9 +226,9 @@ public final class RefusalsTest {
         Check.badArgument(3, "verdict(-1), 40 wait", () -> full.verdict(-1));
         for (int i = 1; i < SITUATIONS.length; i++) {
             char due = i == 2 ? 'U' : 'S';
-            Check.due(7, "payout(0), " + SITUATIONS[i], 'A', thrown(situation(i), x -> x.payout(0)));
-            Check.due(7, "payout(401), " + SITUATIONS[i], 'A', thrown(situationInTheDark(i), x -> x.payout(401)));
-            Check.due(7, "payout(400), " + SITUATIONS[i], due, thrown(situation(i), x -> x.payout(400)));
+            dueThrown(7, "payout(0), " + SITUATIONS[i], 'A', thrown(situation(i), x -> x.payout(0)));
+            dueThrown(7, "payout(401), " + SITUATIONS[i], 'A', thrown(situationInTheDark(i), x -> x.payout(401)));
+            dueThrown(7, "payout(400), " + SITUATIONS[i], due, thrown(situation(i), x -> x.payout(400)));
         }
         due(13, "remove(10)", "S S S S S S S S S A S S", "S S S S S S S S S A S S", x -> x.remove(10));
         due(13, "remove(0)", "S S S S S S S S S N S S", "S S S S S S S S S N S S", x -> x.remove(0));
