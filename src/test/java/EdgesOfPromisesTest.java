@@ -244,6 +244,14 @@ public final class EdgesOfPromisesTest {
             Check.due(8, "plan(400, " + kind + ") of nothing", -1, x.plan(400, kind));
         }
         Check.badArgument(8, "plan(0, 1) of nothing", () -> x.plan(0, 1));
+        CashRecycler rich = Machines.withKinds(3, 30, 4, 30, 5, 30);
+        int[] unpayable = {1, 2, 3, 5, 6, 7, 9, 11, 13, 15, 399};
+        for (int amount : unpayable) {
+            for (int kind = 1; kind <= 5; kind++) {
+                Check.due(8, "plan(" + amount + ", " + kind + ") of fours, tens and twenties", -1,
+                        rich.plan(amount, kind));
+            }
+        }
     }
 
     // Promise 9: "So many steps (1 .. 100): the state then. IllegalArgumentException for other numbers."

@@ -459,6 +459,9 @@ public final class EdgesOfStatesTest {
         Check.due(8, "12 is 10, 1 and 1 or three times 4", 1, x.plan(12, 4));
         Check.due(8, "22 is 20, 1 and 1, not 10 and three times 4", 1, x.plan(22, 5));
         CashRecycler y = Machines.withKinds(4, 9, 3, 9, 2, 1, 1, 1);
+        Check.due(8, "10 is a single note, not 4, 4 and 2", 1, y.plan(10, 4));
+        Check.due(8, "4 is a single note", 1, y.plan(4, 3));
+        Check.due(8, "20 is a single note, not 10 and more", 1, x.plan(20, 5));
         Check.due(8, "16 is 10, 4 and 2, not four times 4", 1, y.plan(16, 4));
         Check.due(8, "its fours", 1, y.plan(16, 3));
         // No notes here pay a rest of 6, so the higher kind is not taken as often as it fits.
