@@ -4,8 +4,14 @@ import java.util.function.IntConsumer;
 final class Check {
     private static int asked = 0;
     private static int wrong = 0;
+    private static String numbered = "promise";
 
     private Check() {
+    }
+
+    /** What the first number of each check counts, if it is not the promises. */
+    static void numbers(String what) {
+        numbered = what;
     }
 
     static void due(int promise, String what, long want, long got) {
@@ -70,6 +76,6 @@ final class Check {
 
     private static void tell(int promise, String text) {
         wrong++;
-        System.out.println("promise " + promise + ": " + text);
+        System.out.println(numbered + " " + promise + ": " + text);
     }
 }

@@ -36,6 +36,7 @@ public final class FaceTest {
         "int balance()"};
 
     public static void main(String[] args) {
+        Check.numbers("rule");
         Class<?> type = CashRecycler.class;
         Check.due(1, "public and final", Modifier.PUBLIC | Modifier.FINAL, type.getModifiers());
         List<String> open = new ArrayList<>();
