@@ -3,6 +3,8 @@ import java.util.function.ToIntFunction;
 /**
  * Promises 1 to 25 together: long runs of mixed calls, each answer and exception compared with the
  * plain machine's. The runs are made by a fixed sequence of numbers, so they are always the same.
+ * The questions between the calls of a run go beyond the 512 that the document promises answers for;
+ * the program does not count its calls, so they may be asked.
  */
 public final class RandomRunsTest {
     private static final int RUNS = 1500;
